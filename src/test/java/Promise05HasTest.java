@@ -52,7 +52,7 @@ public final class Promise05HasTest {
         WordSets x = Use.with("(a|b|c|d)*");
         for (char sign = 0; sign < 256; sign++) {
             boolean letter = sign >= 'a' && sign <= 'd';
-            for (String text : new String[] {"" + sign, "ab" + sign, sign + "ab", "e".repeat(0) + "a" + sign + "d"}) {
+            for (String text : new String[] {"" + sign, "ab" + sign, sign + "ab", "a" + sign + "d"}) {
                 if (letter) {
                     check.equal("has of " + text, Use.has(x, 0, text), true);
                 } else {

@@ -21,7 +21,6 @@ public final class Promise06CompareTest {
         apart(check, "abcdabcd", "abcdabcc", 2, "abcdabcc");
         apart(check, "(aaaaaaaa)*", "(aaaa)*", 2, "aaaa");
         apart(check, "(a|b)*", "(a|b)*c?", 2, "c");
-        // They part behind all words of up to ten letters.
         apart(check, "a(aaa)*|a(aa)*", "(aa)*a|a(aaa)*b?", 2, "ab");
         apart(check, "(aaa)*(aaaaa)*", "(aaa)*(aaaaa)?", 1, "a".repeat(10));
         slotsAndWord(check);

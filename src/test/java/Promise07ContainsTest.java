@@ -14,9 +14,11 @@ public final class Promise07ContainsTest {
         lacks(check, "a(b|c)*d?", "a(b*c*)*(d|1)d", "add");
         lacks(check, "a|b", "b|d|c", "c");
         lacks(check, "aa|ab|c", "aa|ad|ac", "ac");
-        // Only a common multiple of the lengths parts them.
         lacks(check, "a(a|aa|aaaa)?", "a*", "");
         lacks(check, "(aa)*a|1", "(aaa)*", "aaaaaa");
+        // The first that lacks: a common multiple of both lengths.
+        lacks(check, "(aaaa)*aa?a?", "(aaaaaaa)+", "a".repeat(28));
+        hardPairs(check);
         slotsAndWord(check);
         pairsByChance(check);
         check.end();
@@ -37,6 +39,30 @@ public final class Promise07ContainsTest {
         x.least(2);
         check.equal(one + " contains " + of, x.contains(0, 1), false);
         check.equal(one + " contains " + of, Use.word(x), word);
+    }
+
+    /** Found by search: words of more than 30 letters, and far more pairs of states than most have. */
+    private static void hardPairs(Check check) {
+        String[][] pairs = {
+            {"(b*)a+((b)+)*(((a)(b)*a)+)b*a+", "(b((b)(a)(a(aaaa)+)+))+"},
+            {"((ab*a(ba?)*a)*a)?(a*)", "(aab(aa(aa)a)++)+"},
+            {"((ab?))?*((b(a)+?b)+a?+??)?(a*b)*", "((((aaaaaa)+a)+)b+)*"},
+            {"a*+(b*a)(a)+(ba+((b+)+a*)?+)?", "(((b?(aaaaaa)+a))++)+"},
+        };
+        WordSets x = new WordSets();
+        for (String[] pair : pairs) {
+            Use.read(x, 0, pair[0]);
+            Use.read(x, 1, pair[1]);
+            String due = Reference.of(pair[0]).leastWhere(Reference.of(pair[1]), false, true);
+            check.equal(pair[0] + " contains " + pair[1], x.contains(0, 1), due == null);
+            check.equal(pair[0] + " contains " + pair[1], Use.word(x), due == null ? "" : due);
+        }
+        Use.read(x, 0, pairs[0][0]);
+        Use.read(x, 1, pairs[0][1]);
+        x.contains(0, 1);
+        check.equal("a word of more than 30 letters", x.size(), 45);
+        check.equal("its last letter", x.letter(44) >= 0, true);
+        check.throwsA("letter 45", IndexOutOfBoundsException.class, () -> x.letter(45));
     }
 
     private static void slotsAndWord(Check check) {

@@ -67,6 +67,18 @@ final class Reference {
         return letters;
     }
 
+    /** The same with all words backwards: every move the other way. */
+    Reference turned() {
+        Reference made = new Reference(text);
+        for (int[] move : moves) {
+            made.move(move[2], move[1], move[0]);
+        }
+        made.start = end;
+        made.end = start;
+        made.letters = letters;
+        return made;
+    }
+
     private boolean sees(String signs) {
         return at < text.length() && signs.indexOf(text.charAt(at)) >= 0;
     }
