@@ -565,10 +565,10 @@ public final class WordSets {
         static final int SECOND_ALONE = 2;
 
         // The start is reached by the empty word only; every other pair has one bit here.
-        private static final int MOST_PAIRS = 1 + (1 << 2 * MOST_LETTERS);
+        private static final int MOST_PAIRS = 1 + (1 << (2 * MOST_LETTERS));
         private static final int FIRST_ROOM = 64;
 
-        private final long[] seen = new long[1 << 2 * MOST_LETTERS - 6];
+        private final long[] seen = new long[1 << (2 * MOST_LETTERS - 6)];
         // Few expressions reach more than some dozen pairs, so these rows grow when one does.
         private int[] firsts = new int[FIRST_ROOM];
         private int[] seconds = new int[FIRST_ROOM];
@@ -609,13 +609,13 @@ public final class WordSets {
             for (int letter = 0; letter < ALPHABET; letter++) {
                 int firstSet = firstOnward & first.spelt[letter];
                 int secondSet = secondOnward & second.spelt[letter];
-                if (isNew(firstSet, secondSet)) {
+                if (markIfNew(firstSet, secondSet)) {
                     append(firstSet, secondSet, at * ALPHABET + letter);
                 }
             }
         }
 
-        private boolean isNew(int firstSet, int secondSet) {
+        private boolean markIfNew(int firstSet, int secondSet) {
             int pair = firstSet << MOST_LETTERS | secondSet;
             long bit = 1L << (pair & 63);
             boolean fresh = (seen[pair >> 6] & bit) == 0;

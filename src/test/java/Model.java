@@ -68,13 +68,9 @@ final class Model {
         if (first == null && second == null) {
             return 0;
         }
-        boolean firstLess = second == null || first != null && isLess(first, second);
+        boolean firstLess = Reference.isLess(first, second);
         word = firstLess ? first : second;
         return firstLess ? 1 : 2;
-    }
-
-    private static boolean isLess(String one, String other) {
-        return one.length() != other.length() ? one.length() < other.length() : one.compareTo(other) < 0;
     }
 
     boolean contains(int a, int of) {

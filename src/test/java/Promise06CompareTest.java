@@ -78,17 +78,10 @@ public final class Promise06CompareTest {
             Reference second = Reference.of(other);
             String mine = first.leastWhere(second, true, false);
             String others = first.leastWhere(second, false, true);
-            int due = mine == null && others == null ? 0 : isLess(mine, others) ? 1 : 2;
+            int due = mine == null && others == null ? 0 : Reference.isLess(mine, others) ? 1 : 2;
             String word = due == 0 ? "" : due == 1 ? mine : others;
             check.equal(one + " and " + other, x.compare(0, 1), due);
             check.equal(one + " and " + other, Use.word(x), word);
         }
-    }
-
-    private static boolean isLess(String one, String other) {
-        if (one == null || other == null) {
-            return other == null;
-        }
-        return one.length() != other.length() ? one.length() < other.length() : one.compareTo(other) < 0;
     }
 }

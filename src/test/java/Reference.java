@@ -63,6 +63,14 @@ final class Reference {
         return false;
     }
 
+    /** Every word is less than none (null). */
+    static boolean isLess(String one, String other) {
+        if (one == null || other == null) {
+            return one != null;
+        }
+        return one.length() != other.length() ? one.length() < other.length() : one.compareTo(other) < 0;
+    }
+
     int letters() {
         return letters;
     }
