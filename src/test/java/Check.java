@@ -51,6 +51,12 @@ final class Check {
         throwsA(what, IllegalArgumentException.class, call);
     }
 
+    /** For a test that can't go on. */
+    void fail(String text) {
+        made++;
+        complain(text);
+    }
+
     private void complain(String text) {
         wrong++;
         if (wrong <= SHOWN) {
@@ -58,9 +64,14 @@ final class Check {
         }
     }
 
-    void end() {
+    /** Prints how many were as due; whether all were, and there was at least one. */
+    boolean report() {
         System.out.println(name + ": " + (made - wrong) + " of " + made + " as due");
-        if (wrong > 0) {
+        return wrong == 0 && made > 0;
+    }
+
+    void end() {
+        if (!report()) {
             System.exit(1);
         }
     }

@@ -106,7 +106,6 @@ public final class Promise04PlaceTest {
 
     private static void allShortTexts(Check check) {
         String signs = "a1()|*";
-        WordSets x = new WordSets();
         for (int length = 0; length <= 5; length++) {
             int all = (int) Math.pow(signs.length(), length);
             for (int number = 0; number < all; number++) {
@@ -114,7 +113,7 @@ public final class Promise04PlaceTest {
                 for (int i = 0, rest = number; i < length; i++, rest /= signs.length()) {
                     text.append(signs.charAt(rest % signs.length()));
                 }
-                agrees(check, x, text.toString());
+                agrees(check, new WordSets(), text.toString());
             }
         }
     }

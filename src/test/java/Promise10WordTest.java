@@ -62,7 +62,7 @@ public final class Promise10WordTest {
             WordSets x = Use.with(text);
             int length = texts.below(6);
             List<String> due = Reference.of(text).words(length);
-            for (int k = 0; k < due.size() && k < 100; k++) {
+            for (int k = 0; k < due.size() && k < 25; k++) {
                 check.equal(text, x.word(0, length, k), true);
                 check.equal(text + " word " + k + " of length " + length, Use.word(x), due.get(k));
             }

@@ -27,7 +27,7 @@ public final class RoomTest {
     }
 
     private static void makeCalls(WordSets x) {
-        for (int i = 0; i < 30; i++) {
+        for (int i = 0; i < 28; i++) {
             readText(x, 0, WIDE);
             readText(x, 1, LONG);
             x.compare(0, 1);
@@ -42,8 +42,12 @@ public final class RoomTest {
     }
 
     private static void readText(WordSets x, int slot, byte[] text) {
+        long bytes = 0;
         for (int i = 0; i < text.length; i++) {
-            x.feed(text[i], 1);
+            bytes = bytes << 8 | text[i];
+            if (i % 8 == 7 || i == text.length - 1) {
+                x.feed(bytes, i % 8 + 1);
+            }
         }
         x.read(slot);
     }
