@@ -142,6 +142,8 @@ public final class Edge00CallsTest {
             ends(check, () -> x.word(slot, 4, 0));
             ends(check, () -> x.least(slot));
             ends(check, () -> x.size());
+            // Slot 1 still tells a word, so that there is a letter in every round.
+            ends(check, () -> x.least(1));
             ends(check, () -> x.letter(0));
         }
     }
