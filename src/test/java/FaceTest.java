@@ -7,7 +7,7 @@ import java.util.Arrays;
 import java.util.Set;
 import java.util.TreeSet;
 
-/** The public face is the document's and nothing more. */
+/** The public face is the document's and nothing more, and the classes inside are as LANGUAGE.md wants them. */
 public final class FaceTest {
     private static final String[] FACE = {
         "boolean contains(int, int) IllegalArgumentException",
@@ -44,7 +44,36 @@ public final class FaceTest {
         isPublic(check, constructors[0]);
         int modifiers = WordSets.class.getModifiers();
         check.equal("public and final", Modifier.isPublic(modifiers) && Modifier.isFinal(modifiers), true);
+        noPrivateNamesake(check);
+        for (Class<?> inside : WordSets.class.getDeclaredClasses()) {
+            isInside(check, inside);
+        }
+        staticFieldsAreFinal(check, WordSets.class);
         check.end();
+    }
+
+    private static void noPrivateNamesake(Check check) {
+        for (Method method : WordSets.class.getDeclaredMethods()) {
+            if (Modifier.isPrivate(method.getModifiers())) {
+                for (String member : FACE) {
+                    check.equal(method + " and " + member, member.contains(" " + method.getName() + "("), false);
+                }
+            }
+        }
+    }
+
+    private static void isInside(Check check, Class<?> inside) {
+        int modifiers = inside.getModifiers();
+        check.equal("static: " + inside, Modifier.isStatic(modifiers), true);
+        check.equal("seen: " + inside, Modifier.isPublic(modifiers) || Modifier.isProtected(modifiers), false);
+        staticFieldsAreFinal(check, inside);
+    }
+
+    private static void staticFieldsAreFinal(Check check, Class<?> owner) {
+        for (Field field : owner.getDeclaredFields()) {
+            int modifiers = field.getModifiers();
+            check.equal("final: " + field, Modifier.isFinal(modifiers) || !Modifier.isStatic(modifiers), true);
+        }
     }
 
     private static void isPublic(Check check, Member member) {

@@ -48,6 +48,8 @@ public final class Promise07ContainsTest {
             {"((ab*a(ba?)*a)*a)?(a*)", "(aab(aa(aa)a)++)+"},
             {"((ab?))?*((b(a)+?b)+a?+??)?(a*b)*", "((((aaaaaa)+a)+)b+)*"},
             {"a*+(b*a)(a)+(ba+((b+)+a*)?+)?", "(((b?(aaaaaa)+a))++)+"},
+            {"(b+(a+b+(a+b+)?)?a)*(ab+)*", "((b+a*ba*b)+(ab+a)+)+"},
+            {"(a*(b+a*b)+a*b)*(ba*)*", "((ab*aa+)*b+a*b)*b"},
         };
         WordSets x = new WordSets();
         for (String[] pair : pairs) {
